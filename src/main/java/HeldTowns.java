@@ -9,6 +9,7 @@ public final class HeldTowns {
     private static final int MOST_BASE = 9;
     private static final int MOST_OUNCES = 9;
     private static final int LAST_PLACE = 4;
+    private static final int MIDDLE_PLACE = 2;
     private static final int MOST_COUNTED_OF_SNOW = 3;
     private static final int MOST_SEEN = 8;
     private static final int MOST_WINDS = 999;
@@ -910,63 +911,44 @@ public final class HeldTowns {
         int mostStanding;
         int fewestOunces;
         private final int[] chosen;
-        private final int[] bears;
         private final int[] ouncesOfSet;
-        private final int[] lesserHoldOfSet;
-        private int weights;
+        private final int[] holdOfSet;
 
         Packing() {
             best = new int[MOST_VILLAGES];
             mostStanding = NONE;
             fewestOunces = 0;
             chosen = new int[MOST_VILLAGES];
-            bears = new int[MOST_WEIGHTS];
             ouncesOfSet = new int[SETS];
-            lesserHoldOfSet = new int[SETS];
-            weights = 0;
+            holdOfSet = new int[SETS];
         }
 
         void search(Land land, int force) {
-            weights = land.weights;
-            for (int weight = 0; weight < weights; weight++) {
-                bears[weight] = bearing(land.kinds[weight], land.ounces[weight], 0);
-            }
             for (int set = 0; set < SETS; set++) {
-                ouncesOfSet[set] = ouncesOf(land, set);
-                lesserHoldOfSet[set] = 0;
+                weigh(land, set);
             }
-            placeFrom(0, 0, 0, 0);
             for (int village = 0; village < MOST_VILLAGES; village++) {
                 chosen[village] = 0;
                 best[village] = 0;
             }
             mostStanding = NONE;
             fewestOunces = 0;
-            chooseFrom(land, force, 0, (1 << weights) - 1, 0, 0);
+            chooseFrom(land, force, 0, (1 << land.weights) - 1, 0, 0);
         }
 
-        private static int ouncesOf(Land land, int set) {
+        // The HOLDS of a WEIGHT to both sides make 6 times what it BEARS, wherever it is, and in the middle they are
+        // alike: no PLACES give a set a greater lesser HOLD than the middle for all of it.
+        private void weigh(Land land, int set) {
             int sum = 0;
+            int bears = 0;
             for (int weight = 0; weight < land.weights; weight++) {
                 if ((set >> weight & 1) == 1) {
                     sum += land.ounces[weight];
+                    bears += bearing(land.kinds[weight], land.ounces[weight], 0);
                 }
             }
-            return sum;
-        }
-
-        // Which PLACES are best for a set is the same for all VILLAGES: a BASE holds alike to both sides.
-        private void placeFrom(int weight, int set, int west, int east) {
-            if (weight >= weights || weight >= MOST_WEIGHTS) {
-                lesserHoldOfSet[set] = Math.max(lesserHoldOfSet[set], Math.min(west, east));
-                return;
-            }
-            placeFrom(weight + 1, set, west, east);
-            for (int place = 0; place <= LAST_PLACE; place++) {
-                placeFrom(weight + 1, set | 1 << weight,
-                        west + bears[weight] * leverage(place, WEST),
-                        east + bears[weight] * leverage(place, EAST));
-            }
+            ouncesOfSet[set] = sum;
+            holdOfSet[set] = bears * leverage(MIDDLE_PLACE, WEST);
         }
 
         // Sets are tried in the order of their numbers, VILLAGE 0 first: the first found of like ones is the one.
@@ -977,7 +959,7 @@ public final class HeldTowns {
             }
             int base = HOLD_OF_A_BASE * land.bases[village];
             for (int set = 0; set <= free && set < SETS; set++) {
-                boolean stands = !liftsAt(base + lesserHoldOfSet[set], force);
+                boolean stands = !liftsAt(base + holdOfSet[set], force);
                 // WEIGHTS where nothing STANDS by them only add OUNCES.
                 if ((set & ~free) == 0 && (stands || set == 0)) {
                     chosen[village] = set;

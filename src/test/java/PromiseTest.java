@@ -172,12 +172,13 @@ public final class PromiseTest {
     }
 
     private static void anotherTable() {
-        HeldTowns x = Due.read("0,0;s504,w304");
+        HeldTowns x = Due.read("0,0;s502,w304,w904,c704,b904");
         x.image();
         x.see(1, 0, 9, false);
         x.blow(1, 0);
-        x.blow(0, 9);
-        due.is("5 fell ahead", x.count(7), 2);
+        x.blow(0, 20);
+        due.is("5 fell ahead", x.count(7), 4);
+        due.is("5 snow ahead", x.weight(0, 5), 2);
         Due.write(x, "0,0;s504,w30");
         due.is("5 refused", x.table(), STATE);
         due.is("5 all is still there", x.count(5), 2);
@@ -195,6 +196,9 @@ public final class PromiseTest {
         due.is("5 a third", x.table(), 3);
         due.is("5 fewer weights", x.weight(1, 0), UNKNOWN);
         due.is("5 more villages", x.village(2, 0), 7);
+        due.is("5 ounces of these alone", x.count(3), 1);
+        due.is("5 bits of these alone", x.village(0, 6), 0);
+        due.is("5 pack of these alone", x.pack(6, 0), 1);
     }
 
     // 6
@@ -303,6 +307,9 @@ public final class PromiseTest {
         HeldTowns y = Due.read("0,0;w504,p100");
         due.is("6 up to 99", y.weight(0, 7), 125);
         due.is("6 far", y.weight(0, 6), 511);
+        // To the west 400 + 90 + o: 99 LIFTS 1 to 4; to the east 200 + 18 + 5 o: 149 as good.
+        HeldTowns most = Due.read("0,0;w504,p101,b900");
+        due.is("6 for 99", most.weight(0, 7), 99);
         // Two PEBBLES hold more than any FORCE either way.
         HeldTowns z = Due.read("0,0;w502,p100,p104");
         due.is("6 no wind tells", z.weight(0, 7), 0);
@@ -659,6 +666,7 @@ public final class PromiseTest {
         HeldTowns plain = Due.read("0,0;w102,w112");
         plain.lift(1);
         due.is("17 not one on the plain", plain.mend(), NONE);
+        due.is("17 the last of five", Due.read("9,0;w102,w102,w102,w102,w412").mend(), 4);
         due.is("17 state", new HeldTowns().mend(), STATE);
     }
 
@@ -803,9 +811,14 @@ public final class PromiseTest {
         due.is("23 none was kept", x.restore(), STATE);
         x.blow(0, 1);
         x.blow(1, 9);
-        x.see(1, 0, 9, true);
-        x.see(0, 1, 3, false);
+        due.is("23 two fell", x.count(7), 2);
+        x.put(1, 1, 2); // 27 + 3 o
+        x.see(1, 0, 9, true); // 27 + 3 o < 45: 5 at most
+        x.see(0, 1, 3, false); // 3 + 4 o >= 15: 3 at least
+        x.see(0, 0, 3, true); // 3 + 2 o < 15: 5 at most
         x.image();
+        due.is("23 seen of one", x.weight(1, 6), 31);
+        due.is("23 seen of the other", x.weight(0, 6), 28);
         long kept = x.digest();
         for (int time = 0; time < 2; time++) {
             disturb(x);
@@ -826,13 +839,17 @@ public final class PromiseTest {
         x.build(0, 7);
         x.build(1, 0);
         x.cut(0, 9);
-        x.put(0, 1, 3);
+        x.put(0, 1, 4);
         x.blow(0, 99);
         x.blow(1, 99);
-        x.lift(2);
+        due.is("23 one more fell", x.count(7), 3);
+        x.put(2, 0, 3);
         x.cut(2, 3);
         x.forget();
-        x.see(1, 1, 8, false);
+        x.see(2, 1, 7, false);
+        x.see(2, 0, 8, true);
+        x.see(2, 1, 6, false);
+        x.see(2, 0, 5, true);
     }
 
     // 24
@@ -851,8 +868,9 @@ public final class PromiseTest {
         due.is("24 what 12", x.count(12), OUTSIDE);
         due.is("24 what -1", x.count(-1), OUTSIDE);
         due.is("24 high", x.count(HIGH), OUTSIDE);
-        HeldTowns great = Due.read("0,0;p100,p104,p110,p114");
+        HeldTowns great = Due.read("0,0;p100,p104,p110,p114,w900");
         due.is("24 great", great.count(4), 99);
+        due.is("24 five", great.count(3), 13);
     }
 
     private static void countsAre(HeldTowns x, int[] told) {
