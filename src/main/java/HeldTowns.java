@@ -128,10 +128,10 @@ public final class HeldTowns {
         }
         switch (what) {
             case 0: return land.bases[village];
-            case 1: return land.holdOf(village, WEST);
-            case 2: return land.holdOf(village, EAST);
-            case 3: return standBy(land.holdOf(village, WEST));
-            case 4: return standBy(land.holdOf(village, EAST));
+            case 1: return land.holdBut(NONE, village, WEST);
+            case 2: return land.holdBut(NONE, village, EAST);
+            case 3: return standBy(land.holdBut(NONE, village, WEST));
+            case 4: return standBy(land.holdBut(NONE, village, EAST));
             case 5: return land.leastOf(village);
             case 6: return land.weightsIn(village);
             case 7: return land.ouncesIn(village);
@@ -146,7 +146,7 @@ public final class HeldTowns {
         if (!isWind(side, force)) {
             return OUTSIDE;
         }
-        return liftsAt(land.holdOf(village, side), force) ? 1 : 0;
+        return liftsAt(land.holdBut(NONE, village, side), force) ? 1 : 0;
     }
 
     // ---- what is done
@@ -354,7 +354,13 @@ public final class HeldTowns {
             }
         }
         for (int village = 0; village < land.villages; village++) {
-            h = mixedWithVillage(h, village);
+            for (int what = 0; what <= 7; what++) {
+                h = mixed(h, village(village, what));
+            }
+            for (int weight = 0; weight < land.weights; weight++) {
+                h = mixed(h, where(weight, village, 0));
+                h = mixed(h, where(weight, village, 1));
+            }
         }
         if (hasTable()) {
             h = mixed(h, mend());
@@ -366,18 +372,6 @@ public final class HeldTowns {
         }
         for (int what = 0; what <= 11; what++) {
             h = mixed(h, count(what));
-        }
-        return h;
-    }
-
-    private long mixedWithVillage(long before, int village) {
-        long h = before;
-        for (int what = 0; what <= 7; what++) {
-            h = mixed(h, village(village, what));
-        }
-        for (int weight = 0; weight < land.weights; weight++) {
-            h = mixed(h, where(weight, village, 0));
-            h = mixed(h, where(weight, village, 1));
         }
         return h;
     }
@@ -547,10 +541,10 @@ public final class HeldTowns {
         /** Only behind isTable(): then each VILLAGE takes two letters, and each WEIGHT five (the last one four). */
         void readInto(Land land) {
             land.clear(villages, weights);
-            for (int village = 0; village < villages; village++) {
+            for (int village = 0; village < land.villages; village++) {
                 land.bases[village] = digitAt(2 * village);
             }
-            for (int weight = 0; weight < weights; weight++) {
+            for (int weight = 0; weight < land.weights; weight++) {
                 int start = 2 * villages + 5 * weight;
                 land.kinds[weight] = kindAt(start);
                 land.ounces[weight] = digitAt(start + 1);
@@ -625,11 +619,8 @@ public final class HeldTowns {
             fallen = other.fallen;
         }
 
-        int holdOf(int village, int side) {
-            return holdWithout(NONE, village, side);
-        }
-
-        private int holdWithout(int left, int village, int side) {
+        /** The HOLD of a VILLAGE to a side, but for one WEIGHT (NONE: of all). */
+        int holdBut(int left, int village, int side) {
             int hold = HOLD_OF_A_BASE * bases[village];
             for (int weight = 0; weight < weights; weight++) {
                 if (homes[weight] == village && weight != left) {
@@ -646,28 +637,22 @@ public final class HeldTowns {
                 return 0;
             }
             int bears = bearing(kinds[weight], heavy, snows[weight]);
-            return holdWithout(weight, village, side) + bears * leverage(places[weight], side);
+            return holdBut(weight, village, side) + bears * leverage(places[weight], side);
         }
 
         private int holdIfPut(int weight, int village, int place, int side) {
             int bears = bearing(kinds[weight], ounces[weight], 0);
-            return holdWithout(weight, village, side) + bears * leverage(place, side);
+            return holdBut(weight, village, side) + bears * leverage(place, side);
         }
 
         int leastOf(int village) {
-            return standBy(Math.min(holdOf(village, WEST), holdOf(village, EAST)));
+            return standBy(Math.min(holdBut(NONE, village, WEST), holdBut(NONE, village, EAST)));
         }
 
         int leastOfAll() {
-            return leastOfAllBut(NONE);
-        }
-
-        private int leastOfAllBut(int left) {
             int least = MOST_FORCE;
             for (int village = 0; village < villages; village++) {
-                if (village != left) {
-                    least = Math.min(least, leastOf(village));
-                }
+                least = Math.min(least, leastOf(village));
             }
             return least;
         }
@@ -692,8 +677,13 @@ public final class HeldTowns {
 
         private int leastOfAllIfMended(int weight) {
             int heavy = ounces[weight] + 1;
-            int own = standBy(Math.min(holdIfOunces(weight, heavy, WEST), holdIfOunces(weight, heavy, EAST)));
-            return Math.min(own, leastOfAllBut(homes[weight]));
+            int least = standBy(Math.min(holdIfOunces(weight, heavy, WEST), holdIfOunces(weight, heavy, EAST)));
+            for (int village = 0; village < villages; village++) {
+                if (village != homes[weight]) {
+                    least = Math.min(least, leastOf(village));
+                }
+            }
+            return least;
         }
 
         int bestToMend() {
@@ -717,7 +707,7 @@ public final class HeldTowns {
             for (int side = 0; side < SIDES; side++) {
                 int strongest = HOURLY_FORCES - 1;
                 for (int village = 0; village < villages; village++) {
-                    strongest = Math.min(strongest, standBy(holdOf(village, side)));
+                    strongest = Math.min(strongest, standBy(holdBut(NONE, village, side)));
                 }
                 stood += strongest + 1;
             }
@@ -767,7 +757,7 @@ public final class HeldTowns {
             // All VILLAGES are looked at ahead of the first that SLIDES.
             int lifting = 0;
             for (int village = 0; village < villages; village++) {
-                if (liftsAt(holdOf(village, side), force)) {
+                if (liftsAt(holdBut(NONE, village, side), force)) {
                     lifting |= 1 << village;
                 }
             }
@@ -809,6 +799,8 @@ public final class HeldTowns {
 
     /** What is SEEN, and what it tells of the OUNCES of WEIGHTS. */
     private static final class Seen {
+        private static final int ALL_OUNCES = (1 << MOST_OUNCES) - 1;
+
         int length;
         private final int[] weights;
         private final int[] sides;
@@ -846,23 +838,18 @@ public final class HeldTowns {
         }
 
         int possibleOunces(Land land, int weight) {
-            int bits = 0;
-            for (int heavy = 1; heavy <= MOST_OUNCES; heavy++) {
-                if (land.homes[weight] == NONE || agreesWith(land, weight, heavy)) {
-                    bits |= 1 << heavy - 1;
+            int bits = ALL_OUNCES;
+            if (land.homes[weight] == NONE) {
+                return bits;
+            }
+            for (int i = 0; i < length; i++) {
+                for (int heavy = 1; heavy <= MOST_OUNCES && weights[i] == weight; heavy++) {
+                    if (liftsAt(land.holdIfOunces(weight, heavy, sides[i]), forces[i]) != lifting[i]) {
+                        bits &= ~(1 << heavy - 1);
+                    }
                 }
             }
             return bits;
-        }
-
-        private boolean agreesWith(Land land, int weight, int heavy) {
-            for (int i = 0; i < length; i++) {
-                if (weights[i] == weight
-                        && liftsAt(land.holdIfOunces(weight, heavy, sides[i]), forces[i]) != lifting[i]) {
-                    return false;
-                }
-            }
-            return true;
         }
 
         int windToWaitFor(Land land, int weight) {
