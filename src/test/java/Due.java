@@ -1,21 +1,29 @@
-/** Counts answers that are not as due, and tells each. */
+/** Counts answers that are not as due, and tells the first of them. */
 final class Due {
+    private static final int MOST_TOLD = 40;
+
     private int asked = 0;
     private int wrong = 0;
 
     void is(String call, long got, long want) {
         asked++;
         if (got != want) {
-            wrong++;
-            System.out.println(call + " answered " + got + ", due is " + want);
+            tell(call + " answered " + got + ", due is " + want);
         }
     }
 
     void holds(String what, boolean so) {
         asked++;
         if (!so) {
-            wrong++;
-            System.out.println("not so: " + what);
+            tell("not so: " + what);
+        }
+    }
+
+    // One fault can make hundreds of answers wrong: the first tell enough.
+    private void tell(String fault) {
+        wrong++;
+        if (wrong <= MOST_TOLD) {
+            System.out.println(fault);
         }
     }
 
