@@ -55,7 +55,7 @@ public final class EdgesOfAllTest {
 
     /** Each thing that an IMAGE keeps is changed alone, and is as kept then. */
     private static void goesOnFromTheImage() {
-        edge.says(23, "An IMAGE keeps BASES, OUNCES, where WEIGHTS are, SNOW, WINDS, LIFTED, FELL, SEEN");
+        edge.says(23, "where WEIGHTS are, SNOW, WINDS, how often any LIFTED, how many FELL, SEEN");
         HeldTowns x = Due.read("1,9,2,3;s302,c932,w104,w104,p112");
         x.blow(0, 4);
         x.see(0, 0, 3, true);
@@ -277,7 +277,7 @@ public final class EdgesOfAllTest {
 
     /** What digest() does not tell: the IMAGE, and what is SEEN of a WEIGHT on the PLAIN. */
     private static void refusalsLeaveTheImage() {
-        edge.says(23, "Refusals: they change nothing.");
+        edge.says(23, "they change nothing");
         HeldTowns x = Due.read("2,3;s404,c412");
         for (int i = 0; i < 8; i++) {
             x.see(i % 2, 0, i, i % 3 == 0);

@@ -175,7 +175,7 @@ public final class EdgesOfSeenTest {
     }
 
     private static void allGoesOn() {
-        edge.says(21, "so many WINDS blow, and all goes on so: how often a VILLAGE LIFTS, all together");
+        edge.says(21, "and all goes on so: how often a VILLAGE LIFTS, all together");
         String table = "3,1,4;c904,s911,b820,w302,s224";
         for (int seed : new int[] {0, 77, Edge.HIGH}) {
             HeldTowns told = Due.read(table);

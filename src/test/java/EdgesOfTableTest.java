@@ -168,7 +168,7 @@ public final class EdgesOfTableTest {
     }
 
     private static void howManyVillages() {
-        edge.says(5, "THE PAGE is read as THE TABLE: how many VILLAGES");
+        edge.says(5, "two to four VILLAGES (numbered from 0)");
         edge.is("one", Due.written("0;w100").table(), Edge.STATE);
         edge.is("two", Due.written("0,9;w104").table(), 2);
         edge.is("three", Due.written("0,9,0;w924").table(), 3);

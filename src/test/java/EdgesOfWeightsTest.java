@@ -111,6 +111,10 @@ public final class EdgesOfWeightsTest {
         // 3 + o to the west leaves 6 at worst (5 and 6 OUNCES are not told apart), 3 + 5 o to the east leaves 5.
         HeldTowns east = Due.read("1,0;w504");
         edge.is("from the east", east.weight(0, 7), 105);
+        // 8 and 9 at PLACE 4: from the west both STAND 1 and LIFT by 2, from the east 9 alone STANDS 9.
+        HeldTowns two = Due.read("0,0;w504");
+        two.see(0, 1, 8, false);
+        edge.is("of two, from the east", two.weight(0, 7), 109);
         // 400 + 90 + o to the west: FORCE 99 LIFTS 1 to 4
         HeldTowns great = Due.read("0,0;w504,p101,b900");
         edge.is("the greatest force", great.weight(0, 7), 99);

@@ -42,12 +42,9 @@ public final class EdgesOfWouldTest {
         whereIs(x, 0, 0, 2, 3); // 15 and 15: where it is counts once
         x.lift(0);
         whereIs(x, 0, 0, 2, 3); // from the PLAIN
-        HeldTowns most = Due.read("0,0;p100,p104,w902");
+        whereIs(Due.read("0,0,0,9;w100,w100,w100,w100,w502"), 4, 3, 2, 8); // 27 + 15
         edge.says(15, "(99 at most)");
-        whereIs(most, 2, 0, 0, 99);
-        HeldTowns last = Due.read("0,0,0,9;w100,w100,w100,w100,w502");
-        edge.says(15, "the last WEIGHT, the last VILLAGE");
-        whereIs(last, 4, 3, 2, 8); // 27 + 15
+        whereIs(Due.read("0,0;p100,p104,w902"), 2, 0, 0, 99);
     }
 
     private static void whereOfLikeOnes() {
@@ -129,6 +126,11 @@ public final class EdgesOfWouldTest {
         edge.is("village 3, where there was one", four.pack(5, 13), 0);
         edge.is("a weight, where there was one", four.pack(6, 11), 3); // 54 by both
         edge.is("the other two hold nothing", four.pack(20, 0), 0);
+        HeldTowns last = Due.read("0,0,0,9;w902");
+        edge.is("village 3 alone of four", last.pack(10, 13), 1); // 27 + 27
+        Due.write(last, "0,0;w902");
+        last.table();
+        edge.is("village 3, where it alone had one", last.pack(5, 13), 0);
     }
 
     private static void packOfLikeOnes() {
@@ -150,6 +152,10 @@ public final class EdgesOfWouldTest {
         }
         edge.is("15 by 5 at 2", x.pack(3, 0), 1);
         edge.is("24 by 8 is not", x.pack(4, 0), 0);
+        x.cut(0, 4);
+        edge.is("12 by 4", x.pack(2, 0), 1);
+        edge.is("15 by 5 is not, with 1 counted", x.pack(3, 0), 0);
+        x.cut(0, 5);
         edge.is("it stays counted", x.weight(0, 5), 3);
         edge.is("it stays where it is", x.weight(0, 3), 4);
         x.lift(0);
@@ -227,7 +233,8 @@ public final class EdgesOfWouldTest {
         edge.is("a pebble bears no more", Due.read("0,0;p102,p112").mend(), NONE);
         edge.is("99 at most", Due.read("0,0;p100,p104,p110,p114,w102").mend(), NONE);
         // 25 and 5: by a 6th OUNCE 30 and 6
-        edge.is("the greater stand does not matter", Due.read("0,0;w500,p112").mend(), NONE);
+        edge.is("a greater stand to the west does not matter", Due.read("0,0;w500,p112").mend(), NONE);
+        edge.is("a greater stand to the east does not matter", Due.read("0,0;w504,p112").mend(), NONE);
         HeldTowns plain = Due.read("0,0;w402,p112");
         plain.lift(0);
         edge.is("who is on the plain is not mended", plain.mend(), NONE);
